@@ -943,7 +943,6 @@ public final class RegexTracer {
         }
 
         private void openBrackets(int index) {
-            level.settleAtom();
             brackets = OPENED;
             listed = true;
             listStart = index + 1;
@@ -972,7 +971,6 @@ public final class RegexTracer {
             if (made.groups >= GROUP_LIMIT) {
                 return false;
             }
-            level.settleAtom();
             made.groups++;
             depth++;
             made.addStep(NOTE, 2 * made.groups, 0);
