@@ -1,4 +1,4 @@
-/** For each call that takes a pattern, a position, a group or a match: the last that exists and the first that does not. */
+/** For each call that takes a pattern, a position, a group or a match: the last one and the one behind it. */
 public final class IndexEdgeTests {
     private static final int LEAST = Integer.MIN_VALUE;
     private static final int MOST = Integer.MAX_VALUE;

@@ -7,6 +7,9 @@ public final class ModelTests {
         Integer.MIN_VALUE, Integer.MAX_VALUE};
     private static final String[] TYPING = {"typePattern", "typeText"};
 
+    /** What a later call answers is free. */
+    private static final int CALL_LIMIT = 512;
+
     public static void main(String[] arguments) {
         Checks.test("promises 1 to 45: runs of mixed calls", () -> runs(1, 400, 12, 7));
         Checks.test("promises 1 to 45: runs on long texts", () -> runs(2, 400, 30, 40));
@@ -21,7 +24,7 @@ public final class ModelTests {
         Random random = new Random(seed);
         for (int run = 0; run < count; run++) {
             Run one = new Run(random);
-            while (one.calls < 460 && one.same) {
+            while (one.goesOn()) {
                 one.next(patternLength, textLength);
             }
             if (!one.same) {
@@ -43,6 +46,10 @@ public final class ModelTests {
             this.random = random;
         }
 
+        boolean goesOn() {
+            return same && calls < CALL_LIMIT;
+        }
+
         void next(int patternLength, int textLength) {
             int choice = random.nextInt(12);
             if (choice == 0) {
@@ -59,7 +66,7 @@ public final class ModelTests {
         }
 
         private void type(String name, String characters) {
-            for (int index = 0; index < characters.length() && same; index++) {
+            for (int index = 0; index < characters.length(); index++) {
                 call(name, characters.charAt(index), 0, 0);
             }
         }
@@ -83,6 +90,9 @@ public final class ModelTests {
         }
 
         private void call(String name, int a, int b, int c) {
+            if (!goesOn()) {
+                return;
+            }
             String due;
             try {
                 due = model.call(name, a, b, c);
@@ -105,7 +115,7 @@ public final class ModelTests {
         Random random = new Random(3);
         for (int run = 0; run < 300; run++) {
             Run one = new Run(random);
-            while (one.calls < 500 && one.same) {
+            while (one.goesOn()) {
                 String name = random.nextInt(2) == 0
                         ? TYPING[random.nextInt(2)]
                         : Calls.NAMES[random.nextInt(Calls.NAMES.length)];

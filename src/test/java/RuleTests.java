@@ -21,11 +21,14 @@ public final class RuleTests {
 
     public static void main(String[] arguments) {
         Checks.test("the public face is the one of the document", RuleTests::face);
+        Checks.test("the public face stands in the source as in the document", RuleTests::faceAsWritten);
+        Checks.test("the calls stand under the headings of the document", RuleTests::headings);
         Checks.test("rule 1: nothing else can be seen", RuleTests::hiddenMembers);
         Checks.test("rule 1: private methods have names of their own", RuleTests::privateNames);
         Checks.test("rules 3 to 6: what the source does not use", RuleTests::forbiddenWords);
         Checks.test("rule 5: static fields are constants", RuleTests::staticFields);
-        Checks.test("rule 11: short methods, few classes, few fields", RuleTests::sizes);
+        Checks.test("rule 4: the source has plain signs alone", RuleTests::plainSigns);
+        Checks.test("rule 11: short methods, few classes, few fields, few parameters", RuleTests::sizes);
         Checks.test("room: searches make no objects", RuleTests::searchesMakeNothing);
         Checks.test("room: the dearest run", RuleTests::dearestRun);
         Checks.end();
@@ -62,6 +65,37 @@ public final class RuleTests {
         return due;
     }
 
+    /** With the names of the arguments, which a compiled class does not tell. */
+    private static void faceAsWritten() {
+        String source = read(SOURCE).replaceAll("\\s+", " ");
+        Matcher line = Pattern.compile("(?m)^    (public .*);$").matcher(read(DOCUMENT));
+        int count = 0;
+        while (line.find()) {
+            count++;
+            Checks.yes("the source has " + line.group(1), source.contains(" " + line.group(1) + " {"));
+        }
+        Checks.same("the number of members", count, 45);
+        Checks.yes("the class", source.contains(" public final class RegexTracer { "));
+    }
+
+    private static void headings() {
+        String source = read(SOURCE);
+        Pattern heading = Pattern.compile("Ahead of the calls (.*) the interface says: (---- .*)\\.");
+        Matcher sentence = heading.matcher(read(DOCUMENT));
+        int from = 0;
+        int count = 0;
+        while (sentence.find()) {
+            from = source.indexOf("    // " + sentence.group(2) + "\n", from);
+            Checks.yes("there is " + sentence.group(2), from >= 0);
+            for (String call : sentence.group(1).replace("`", "").split(", ")) {
+                from = source.indexOf(" " + call + "(", Math.max(0, from));
+                Checks.yes(call + " stands under " + sentence.group(2), from >= 0);
+                count++;
+            }
+        }
+        Checks.same("the number of calls", count, 44);
+    }
+
     private static String signatureOf(Executable member) {
         StringBuilder text = new StringBuilder("(");
         for (Class<?> type : member.getParameterTypes()) {
@@ -89,6 +123,8 @@ public final class RuleTests {
             Checks.yes(inner.getName(), Modifier.isPrivate(modifiers) && Modifier.isStatic(modifiers));
         }
         Checks.yes("the class is final", Modifier.isFinal(RegexTracer.class.getModifiers()));
+        Checks.yes("it extends nothing", RegexTracer.class.getSuperclass() == Object.class);
+        Checks.same("the interfaces that it implements", RegexTracer.class.getInterfaces().length, 0);
     }
 
     private static void privateNames() {
@@ -121,6 +157,12 @@ public final class RuleTests {
         }
     }
 
+    private static void plainSigns() {
+        for (char sign : read(SOURCE).toCharArray()) {
+            Checks.yes("the sign " + (int) sign, sign == '\n' || (sign >= ' ' && sign < 127));
+        }
+    }
+
     private static void staticFields() {
         for (Class<?> inner : RegexTracer.class.getDeclaredClasses()) {
             checkStaticFields(inner);
@@ -139,9 +181,9 @@ public final class RuleTests {
 
     private static void sizes() {
         Checks.yes("few classes", RegexTracer.class.getDeclaredClasses().length < 12);
-        checkFields(RegexTracer.class);
+        checkMembers(RegexTracer.class);
         for (Class<?> inner : RegexTracer.class.getDeclaredClasses()) {
-            checkFields(inner);
+            checkMembers(inner);
         }
         int begun = 0;
         String[] lines = read(SOURCE).split("\n");
@@ -155,12 +197,15 @@ public final class RuleTests {
         }
     }
 
-    private static void checkFields(Class<?> owner) {
+    private static void checkMembers(Class<?> owner) {
         int count = 0;
         for (Field field : owner.getDeclaredFields()) {
             count += Modifier.isStatic(field.getModifiers()) ? 0 : 1;
         }
         Checks.yes(owner.getName() + " has at most 20 fields", count <= 20);
+        for (Method method : owner.getDeclaredMethods()) {
+            Checks.yes(method.getName() + " has at most 7 parameters", method.getParameterCount() <= 7);
+        }
     }
 
     private static long allocated() {

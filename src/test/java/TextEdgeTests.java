@@ -190,7 +190,8 @@ public final class TextEdgeTests {
                 new int[][] {{0, 5}, {4, 5}, {5, 5}, {0, MOST}, {MOST, MOST}, {2, 40}});
         deleteRefused("the text is empty", "", new int[][] {{0, 1}, {1, 1}, {-1, 0}, {1, 0}});
         deleteRefused("the text has 40 characters", FORTY, new int[][] {{0, 41}, {41, 41}, {40, 39}});
-        deleteRefused("all of it at once", "abcd", new int[][] {{-1, -2}, {-1, 5}, {6, 5}, {LEAST, MOST}, {MOST, LEAST}});
+        deleteRefused("all of it at once", "abcd",
+                new int[][] {{-1, -2}, {-1, 5}, {6, 5}, {LEAST, MOST}, {MOST, LEAST}});
     }
 
     private static void deleteRefused(String sentence, String text, int[][] places) {
